@@ -111,8 +111,7 @@ public final class FortyLetters {
     private final int[][] boxes = new int[BOXES][CELLS];
     private int fullBoxes = 0;
     private final Prospect prospect = new Prospect(now);
-    private final Rings exchange = new Rings(now);
-    private final Openings openings = new Openings(now);
+    private final Rows rows = new Rows(now);
     private final Signs signs = new Signs();
     private int time = 0;
     private final int[] lying = new int[MOST_ORDERS];
@@ -168,9 +167,13 @@ public final class FortyLetters {
     }
 
     public int fault(int what) {
+        return chosen(what, reader.fault, reader.faultPlace);
+    }
+
+    private static int chosen(int what, int ofZero, int ofOne) {
         switch (what) {
-            case 0: return reader.fault;
-            case 1: return reader.faultPlace;
+            case 0: return ofZero;
+            case 1: return ofOne;
             default: return NONE;
         }
     }
@@ -317,11 +320,7 @@ public final class FortyLetters {
 
     private static int partOfLowestTerms(int upper, int lower, int part) {
         int divisor = Math.max(1, greatestDivisor(upper, lower));
-        switch (part) {
-            case 0: return upper / divisor;
-            case 1: return lower / divisor;
-            default: return NONE;
-        }
+        return chosen(part, upper / divisor, lower / divisor);
     }
 
     private static int greatestDivisor(int a, int b) {
@@ -361,11 +360,11 @@ public final class FortyLetters {
         }
         int bits = 0;
         for (int person = 0; person < now.told.counts[PERSONS]; person++) {
-            if (!now.isOpened(person) && now.canDo(person, order)) {
+            if (now.canDo(person, order)) {
                 bits |= 1 << person;
             }
         }
-        return bits;
+        return bits & now.unopened();
     }
 
     public int ready(int person, int order) {
@@ -410,11 +409,7 @@ public final class FortyLetters {
             trial.passYear();
             int person = firstNewFailure();
             if (person != NONE) {
-                switch (what) {
-                    case 0: return person;
-                    case 1: return gone;
-                    default: return NONE;
-                }
+                return chosen(what, person, gone);
             }
         }
         return NONE;
@@ -430,23 +425,18 @@ public final class FortyLetters {
     }
 
     public int rings() {
-        int most = exchange.best();
-        lay(exchange.bestGiven, now.told.counts[PERSONS]);
+        int most = rows.bestRings();
+        lay(rows.best, now.told.counts[PERSONS]);
         return most;
     }
 
     public int opening(int set) {
         lyingCount = 0;
-        if (set < 0 || set >= 1 << MOST_PERSONS) {
+        if ((set & ~now.unopened()) != 0) {
             return NONE;
         }
-        for (int person = 0; person < MOST_PERSONS; person++) {
-            if ((set & 1 << person) != 0 && !isUnopened(person)) {
-                return NONE;
-            }
-        }
-        int most = openings.best(set);
-        lay(openings.bestTurns, Integer.bitCount(set));
+        int most = rows.bestOpening(set);
+        lay(rows.best, Integer.bitCount(set));
         return most;
     }
 
@@ -531,11 +521,7 @@ public final class FortyLetters {
                 fewest = left;
             }
         }
-        switch (what) {
-            case 0: return best;
-            case 1: return fewest;
-            default: return NONE;
-        }
+        return chosen(what, best, fewest);
     }
 
     public int image(int box) {
@@ -984,17 +970,24 @@ public final class FortyLetters {
         }
 
         private boolean one(int within) {
-            if (kind == NOT_WORD) {
-                if (within > MOST_WITHIN) {
-                    return refuse(MISPLACED);
-                }
+            int inner = within;
+            while (kind == NOT_WORD && inner <= MOST_WITHIN) {
                 next();
-                if (!one(within + 1)) {
-                    return false;
-                }
-                town.teach.add(NOT_WORD, 0);
-                return true;
+                inner++;
             }
+            if (kind == NOT_WORD) {
+                return refuse(MISPLACED);
+            }
+            if (!related(inner)) {
+                return false;
+            }
+            for (int i = within; i < inner; i++) {
+                town.teach.add(NOT_WORD, 0);
+            }
+            return true;
+        }
+
+        private boolean related(int within) {
             if (!sum(within)) {
                 return false;
             }
@@ -1214,6 +1207,16 @@ public final class FortyLetters {
             return cells[HOW + person] >= DONE;
         }
 
+        int unopened() {
+            int bits = 0;
+            for (int person = 0; person < told.counts[PERSONS]; person++) {
+                if (!isOpened(person)) {
+                    bits |= 1 << person;
+                }
+            }
+            return bits;
+        }
+
         boolean canDo(int person, int order) {
             return levelOf(person, told.traits[ASKED_SKILL][order]) >= told.traits[ASKED_LEVEL][order];
         }
@@ -1331,7 +1334,6 @@ public final class FortyLetters {
         private final Play play;
         private int person = 0;
         private int years = 0;
-        private int most = NONE;
 
         Prospect(Play whole) {
             play = whole;
@@ -1391,111 +1393,169 @@ public final class FortyLetters {
             return sum;
         }
 
+        /** Spreads are numbered so that the first of like ones comes first. */
         int spreadsBest(int whose) {
             look(whose);
-            most = NONE;
-            spreadFrom(0, 0);
+            int skills = play.told.counts[SKILLS];
+            int spreads = skills == 0 ? 0 : 1;
+            for (int skill = 1; skill < skills; skill++) {
+                spreads *= years + 1;
+            }
+            int most = NONE;
+            for (int i = 0; i < spreads; i++) {
+                if (fillsYears(i, skills)) {
+                    liveSpread(skills);
+                    if (parts() > most) {
+                        most = parts();
+                        System.arraycopy(spread, 0, best, 0, MOST_SKILLS);
+                    }
+                }
+            }
             return most;
         }
 
-        /** The fewest years first, and only what is more counts: so the first of like ones stays. */
-        private void spreadFrom(int skill, int gone) {
-            if (skill >= play.told.counts[SKILLS] || skill >= MOST_SKILLS) {
-                keepIfMore(gone);
-                return;
+        /** All SKILLS but the last are digits of the number; the last one has the years that are left, if any are. */
+        private boolean fillsYears(int number, int skills) {
+            int rest = number;
+            int left = years;
+            for (int skill = Math.min(skills, MOST_SKILLS) - 2; skill >= 0; skill--) {
+                spread[skill] = rest % (years + 1);
+                rest /= years + 1;
+                left -= spread[skill];
             }
-            int level = play.levelOf(person, skill);
-            for (int count = 0; gone + count <= years; count++) {
-                spread[skill] = count;
+            spread[skills - 1] = left;
+            return left >= 0;
+        }
+
+        private void liveSpread(int skills) {
+            int gone = 0;
+            for (int skill = 0; skill < skills && skill < MOST_SKILLS; skill++) {
+                int level = play.levelOf(person, skill);
+                for (int i = 0; i < spread[skill]; i++) {
+                    level = play.levelNext(person, skill, level, gone);
+                    gone++;
+                }
                 levels[skill] = level;
-                spreadFrom(skill + 1, gone + count);
-                level = play.levelNext(person, skill, level, gone + count);
-            }
-        }
-
-        private void keepIfMore(int gone) {
-            int sum = gone == years ? parts() : NONE;
-            if (sum > most) {
-                most = sum;
-                System.arraycopy(spread, 0, best, 0, MOST_SKILLS);
             }
         }
     }
 
-    /** LETTERS given anew. */
-    private static final class Rings {
-        final int[] bestGiven = new int[MOST_PERSONS];
-        private final int[] given = new int[MOST_PERSONS];
+    /** A set of PERSONS in each of its orders, numbered so that the first of like ones comes first. */
+    private static final class Rows {
+        final int[] best = new int[MOST_PERSONS];
+        private final int[] members = new int[MOST_PERSONS];
+        private final int[] row = new int[MOST_PERSONS];
         private final Play play;
-        private int most = NONE;
+        private int size = 0;
 
-        Rings(Play whole) {
+        Rows(Play whole) {
             play = whole;
         }
 
-        int best() {
-            most = NONE;
-            giveFrom(0, 0, 0);
-            return most;
-        }
-
-        private void giveFrom(int person, int used, int sum) {
-            if (person >= play.told.counts[PERSONS] || person >= MOST_PERSONS) {
-                if (sum > most) {
-                    most = sum;
-                    System.arraycopy(given, 0, bestGiven, 0, MOST_PERSONS);
-                }
-                return;
-            }
-            if (play.isOpened(person)) {
-                given[person] = NONE;
-                giveFrom(person + 1, used, sum);
-                return;
-            }
-            int least = play.worthOf(person, play.cells[HELD + person]);
-            for (int whose = 0; whose < play.told.counts[PERSONS]; whose++) {
-                int worth = play.worthOf(person, play.cells[HELD + whose]);
-                if (!play.isOpened(whose) && (used & 1 << whose) == 0 && worth >= least) {
-                    given[person] = whose;
-                    giveFrom(person + 1, used | 1 << whose, sum + worth);
-                }
-            }
-        }
-    }
-
-    /** Orders of opening a set of LETTERS. */
-    private static final class Openings {
-        final int[] bestTurns = new int[MOST_PERSONS];
-        private final int[] turns = new int[MOST_PERSONS];
-        private final Play play;
-        private int most = NONE;
-
-        Openings(Play whole) {
-            play = whole;
-        }
-
-        int best(int set) {
-            most = NONE;
-            openFrom(0, set, play.doneOrders(), 0);
-            return most;
-        }
-
-        private void openFrom(int turn, int left, int doneOrders, int sum) {
-            if (left == 0 || turn >= MOST_PERSONS) {
-                if (sum > most) {
-                    most = sum;
-                    System.arraycopy(turns, 0, bestTurns, 0, MOST_PERSONS);
-                }
-                return;
-            }
+        private void begin(int set) {
+            size = 0;
             for (int person = 0; person < MOST_PERSONS; person++) {
-                if ((left & 1 << person) != 0) {
-                    turns[turn] = person;
-                    boolean does = play.wouldDo(person, doneOrders);
-                    int doneThen = does ? doneOrders | 1 << play.cells[HELD + person] : doneOrders;
-                    openFrom(turn + 1, left & ~(1 << person), doneThen, does ? sum + 1 : sum);
+                if ((set & 1 << person) != 0) {
+                    members[size] = person;
+                    size++;
                 }
             }
+        }
+
+        private int count() {
+            int count = 1;
+            for (int factor = 2; factor <= size; factor++) {
+                count *= factor;
+            }
+            return count;
+        }
+
+        private void turnTo(int number) {
+            int rest = number;
+            int used = 0;
+            int block = count();
+            for (int place = 0; place < size; place++) {
+                block = Math.max(1, block / (size - place));
+                row[place] = memberLeft(used, rest / block);
+                used |= 1 << row[place];
+                rest %= block;
+            }
+        }
+
+        private int memberLeft(int used, int ahead) {
+            int toPass = ahead;
+            for (int i = 0; i < size; i++) {
+                if ((used & 1 << members[i]) == 0) {
+                    if (toPass == 0) {
+                        return members[i];
+                    }
+                    toPass--;
+                }
+            }
+            return 0;
+        }
+
+        /** Whose LETTER each PERSON of all has is the best then. */
+        int bestRings() {
+            begin(play.unopened());
+            int most = NONE;
+            for (int i = 0; i < count(); i++) {
+                turnTo(i);
+                int sum = worthTogether();
+                if (sum > most) {
+                    most = sum;
+                    keepRings();
+                }
+            }
+            return most;
+        }
+
+        /** NONE if one has less than now. */
+        private int worthTogether() {
+            int sum = 0;
+            for (int i = 0; i < size; i++) {
+                int worth = play.worthOf(members[i], play.cells[HELD + row[i]]);
+                if (worth < play.worthOf(members[i], play.cells[HELD + members[i]])) {
+                    return NONE;
+                }
+                sum += worth;
+            }
+            return sum;
+        }
+
+        private void keepRings() {
+            for (int person = 0; person < MOST_PERSONS; person++) {
+                best[person] = NONE;
+            }
+            for (int i = 0; i < size; i++) {
+                best[members[i]] = row[i];
+            }
+        }
+
+        int bestOpening(int set) {
+            begin(set);
+            int most = NONE;
+            for (int i = 0; i < count(); i++) {
+                turnTo(i);
+                int sum = doneInTurn();
+                if (sum > most) {
+                    most = sum;
+                    System.arraycopy(row, 0, best, 0, MOST_PERSONS);
+                }
+            }
+            return most;
+        }
+
+        private int doneInTurn() {
+            int doneOrders = play.doneOrders();
+            int sum = 0;
+            for (int i = 0; i < size; i++) {
+                if (play.wouldDo(row[i], doneOrders)) {
+                    doneOrders |= 1 << play.cells[HELD + row[i]];
+                    sum++;
+                }
+            }
+            return sum;
         }
     }
 

@@ -15,6 +15,7 @@ public final class ActsTest {
         formulas();
         undoRedo();
         mostActs();
+        eachActIsKept();
         refusedActs();
         CHECK.finish();
     }
@@ -150,6 +151,13 @@ public final class ActsTest {
             CHECK.due("a YEAR without any", x.year(), 0);
         }
         CHECK.due("500 YEARS", x.about(5), 500);
+        for (int i = 501; i <= 999; i++) {
+            x.year();
+        }
+        CHECK.due("behind 999 YEARS", x.year(), -1);
+        CHECK.due("the year stays", x.about(5), 999);
+        x.undo();
+        CHECK.due("that was no ACT", x.about(5), 998);
     }
 
     /** What a first YEAR adds to a level of 3 in SKILL 1 at age 7, two YEARS having gone. */
@@ -287,6 +295,31 @@ public final class ActsTest {
         x.undo();
         x.steam(0);
         CHECK.due("38 then", x.about(8), 38);
+    }
+
+    private static void eachActIsKept() {
+        FortyLetters x = new FortyLetters();
+        for (int acts = 1; acts <= 95; acts++) {
+            x.year();
+            CHECK.due("kept", x.about(8), Math.min(40, acts));
+        }
+        for (int i = 1; i <= 40; i++) {
+            x.undo();
+            CHECK.due("back by " + i, x.about(5), 95 - i);
+            CHECK.due("to redo", x.about(9), i);
+        }
+        for (int i = 1; i <= 30; i++) {
+            x.redo();
+            CHECK.due("on by " + i, x.about(5), 55 + i);
+        }
+        x.year();
+        CHECK.due("none to redo", x.about(9), 0);
+        CHECK.due("31 are kept", x.about(8), 31);
+        for (int i = 1; i <= 31; i++) {
+            x.undo();
+            CHECK.due("back again by " + i, x.about(5), 86 - i);
+        }
+        CHECK.due("no more", x.undo(), false);
     }
 
     private static void refusedActs() {

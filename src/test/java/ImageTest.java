@@ -18,6 +18,9 @@ public final class ImageTest {
         CHECK.due("back no such BOX", x.back(3), -1);
         CHECK.due("back BOX -1", x.back(-1), -1);
         CHECK.due("kept in year 0", x.image(0), 0);
+        CHECK.due("BOX 32", x.back(32), -1);
+        CHECK.due("BOX -32", x.back(-32), -1);
+        CHECK.due("image in BOX 32", x.image(32), -1);
         x.year();
         CHECK.due("kept in year 1", x.image(2), 1);
         x.year();

@@ -146,8 +146,22 @@ public final class MirrorTest {
         for (int i = 0; i < 12; i++) {
             String text = text();
             tell(x, model, text.length() < 1500 ? spoiled(text) : text, run);
-            both(x, model, "about", 13, 0, 0, 0, run);
-            both(x, model, "about", 6, 0, 0, 0, run);
+            whole(x, model, run);
+        }
+    }
+
+    /** All that is told of a TOWN, and all that is now. */
+    private static void whole(FortyLetters x, Model model, int run) {
+        for (int what = 0; what <= 14; what++) {
+            both(x, model, "about", what, 0, 0, 0, run);
+        }
+        for (int i = 0; i < 8; i++) {
+            for (int what = 0; what < 8; what++) {
+                both(x, model, "person", i, what, 0, 0, run);
+                both(x, model, "order", i, what, 0, 0, run);
+                both(x, model, "level", i, what, 0, 0, run);
+                both(x, model, "share", i, what, 0, 0, run);
+            }
         }
     }
 
@@ -174,6 +188,7 @@ public final class MirrorTest {
                 both(x, model, name, draw(8) - (chance(6) ? 1 : 0), draw(6) - (chance(4) ? 1 : 0), draw(4), draw(2), run);
             }
         }
+        whole(x, model, run);
     }
 
     private static void both(FortyLetters x, Model model, String name, int a, int b, int c, int d, int run) {

@@ -112,6 +112,8 @@ public final class SearchTest {
         CHECK.due("z in place of y", x.law(1, 2), 2);
         CHECK.due("x in place of y", x.law(1, 0), 2);
         CHECK.due("y in place of x", x.law(0, 1), 2);
+        CHECK.due("the 60th YEAR counts", Check.town("skill s;order x asks s 0;order y asks s 1;parish p;odds p x 1;"
+            + "person a of p age 0;open 60;").law(0, 1), -1);
         x.opens(0);
         CHECK.due("what is DONE already undoes", x.law(1, 2), 2);
         CHECK.due("none that is not OPENED holds it", x.law(0, 1), 0);

@@ -31,6 +31,8 @@ public final class SignsTest {
         }
         CHECK.due("30 at most", x.sign(0, 0, 0, true), -1);
         CHECK.due("30 are told", x.about(10), 30);
+        CHECK.due("MEANT of 30 SIGNS", x.meant(2, 0), 7);
+        CHECK.due("no thirty-first", x.untell(30), false);
         x.untell(0);
         CHECK.due("an UNTOLD one is one, too", x.sign(0, 0, 0, true), -1);
         CHECK.due("no ACTS", x.about(8), 0);
@@ -53,6 +55,10 @@ public final class SignsTest {
         CHECK.due("known at 3", x.meant(0, 3), 1);
         CHECK.due("known at 4", x.meant(0, 4), 1);
         CHECK.due("known at 5", x.meant(0, 5), 7);
+        x.sign(0, 0, 1, true);
+        x.town();
+        CHECK.due("told of an earlier TOWN", x.untell(2), false);
+        CHECK.due("none is told", x.untell(0), false);
     }
 
     private static void later() {
@@ -141,5 +147,10 @@ public final class SignsTest {
         askIs(x, 0, 0, 2, 1);
         x.sign(0, 0, 1, true);
         askIs(x, 0, 0, -1, -1);
+        StringBuilder eight = new StringBuilder("skill s;parish p;");
+        for (char name = 'a'; name <= 'h'; name++) {
+            eight.append("order ").append(name).append(" asks s 1;odds p ").append(name).append(" 1;");
+        }
+        askIs(Check.town(eight + "person x of p age 1;"), 0, 0, 0, 8);
     }
 }

@@ -8,6 +8,7 @@ public final class TextTest {
         feedAndEnd();
         townAnswers();
         failedTownLeavesAll();
+        nothingIsLeftOver();
         tokens();
         places();
         tooMany();
@@ -91,6 +92,42 @@ public final class TextTest {
         CHECK.due("nothing to redo", x.about(9), 0);
         CHECK.due("BOXES are empty again", x.back(2), -1);
         CHECK.due("no ORDERS", x.about(2), 0);
+    }
+
+    /** What was read once, into a TOWN or up to a FAULT, is in no later TOWN. */
+    private static void nothingIsLeftOver() {
+        FortyLetters x = new FortyLetters();
+        String all = "skill s;skill t;order x asks t 5 seal 1 weight 2 worth 3;order y asks s 1;parish p;odds p x 3;odds p y 4;"
+            + "person a of p age 7 s 5 t 6;undoes x y;undoes y x;teach 2+3;open 7;draw 8;";
+        String bare = "skill s;skill t;order x asks s 0;order y asks s 0;parish p;person a of p age 1;person b of p age 1;";
+        for (int i = 0; i < 4; i++) {
+            Check.feed(x, all);
+            CHECK.due("town of all", x.town(), 1);
+            CHECK.due("its odds", x.share(0, 1), 4);
+            for (int j = 0; j < i; j++) {
+                Check.feed(x, all + "$");
+                CHECK.due("a FAULT", x.town(), -1);
+            }
+            Check.feed(x, bare);
+            CHECK.due("town of less", x.town(), 2);
+            CHECK.due("odds", x.share(0, 0) + x.share(0, 1), 0);
+            CHECK.due("undoes", x.order(0, 5) + x.order(1, 5), 0);
+            CHECK.due("how many undoes", x.about(4), 0);
+            CHECK.due("traits", x.order(0, 0) + x.order(0, 1) + x.order(0, 2) + x.order(0, 3) + x.order(0, 4), 1);
+            CHECK.due("levels", x.level(0, 0) + x.level(0, 1), 0);
+            CHECK.due("units", x.about(13), 0);
+            CHECK.due("open", x.about(7), 40);
+            CHECK.due("the SEED", x.about(6), 798);
+            CHECK.due("BLANK", x.person(0, 4), -1);
+            CHECK.due("SEALED", x.person(0, 1), 0);
+            x.prepare(0, 0);
+            x.year();
+            CHECK.due("teach", x.level(0, 0), 1);
+            x.forge(0, 0);
+            x.forge(1, 1);
+            CHECK.due("x is DONE", x.opens(0), 2);
+            CHECK.due("none is undone", x.opens(1), 2);
+        }
     }
 
     private static void failedTownLeavesAll() {
@@ -205,6 +242,26 @@ public final class TextTest {
         faultIs("open x;", 2, 5);
         faultIs("draw -1;", 2, 5);
         faultIs("draw 1 2;", 2, 7);
+        // what would begin a line can't stand ahead of this line's end
+        faultIs("skill a skill b;", 2, 8);
+        faultIs("skill s;order x skill t;", 2, 16);
+        faultIs("skill s;order x asks s skill t;", 2, 23);
+        faultIs("skill s;order x asks s 1 seal skill t;", 2, 30);
+        faultIs("skill s;order x asks s 1 skill t;", 2, 25);
+        faultIs("parish p;odds p skill t;", 2, 16);
+        faultIs(HEAD + "odds p x skill t;", 2, 43);
+        faultIs(HEAD + "odds p x 1 skill t;", 2, 45);
+        faultIs("parish p;person a skill t;", 2, 18);
+        faultIs("parish p;person a of skill t;", 2, 21);
+        faultIs("parish p;person a of p skill t;", 2, 23);
+        faultIs("parish p;person a of p age skill t;", 2, 27);
+        faultIs("parish p;person a of p age 1 skill t;", 2, 29);
+        faultIs(HEAD + "person a of p age 1 s skill t;", 2, 56);
+        faultIs(HEAD + "undoes x skill t;", 2, 43);
+        faultIs("open skill t;", 2, 5);
+        faultIs("open 1 skill t;", 2, 7);
+        faultIs("draw skill t;", 2, 5);
+        faultIs("teach 1 skill t;", 2, 8);
     }
 
     private static void tooMany() {
@@ -319,6 +376,14 @@ public final class TextTest {
         faultIs("teach (1;", 2, 8);
         faultIs("teach 1);", 2, 7);
         faultIs("teach 1 or;", 2, 10);
+        faultIs("teach 1 and;", 2, 11);
+        faultIs("teach not;", 2, 9);
+        faultIs("teach 1<;", 2, 8);
+        faultIs("teach 1=;", 2, 8);
+        faultIs("teach 1*;", 2, 8);
+        faultIs("teach 1-;", 2, 8);
+        faultIs("teach 1%;", 2, 8);
+        faultIs("teach ();", 2, 7);
         faultIs("teach 1+not 1;", 2, 8);
         faultIs("teach 1 not 1;", 2, 8);
         faultIs("teach s;", 2, 6);
