@@ -1495,7 +1495,7 @@ public final class FortyLetters {
             return 0;
         }
 
-        /** Whose LETTER each PERSON of all has is the best then. */
+        /** Then best tells, PERSON by PERSON, whose LETTER each has. */
         int bestRings() {
             begin(play.unopened());
             int most = NONE;

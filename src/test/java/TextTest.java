@@ -300,6 +300,11 @@ public final class TextTest {
         faultIs("parish p;parish p;", 3, 16);
         faultIs("parish p;person a of p age 1;person a of p age 1;", 3, 36);
         faultIs(HEAD + "person a of p age 1 s 1 s 2;", 3, 58);
+        String full = "skill a;skill b;skill c;skill d;parish p;person a of p age 1 d 1 c 1 b 1 a 1";
+        isTown(full + ";", 1);
+        faultIs(full + " d 1;", 3, full.length() + 1);
+        faultIs(full + " e 1;", 5, full.length() + 1);
+        faultIs(full + " of", 2, full.length() + 1);
         faultIs(HEAD + "odds p x 1;odds p x 1;", 3, 52);
         isTown(HEAD + "parish q;odds p x 1;odds q x 1;order y asks s 1;odds p y 1;", 0);
         String two = HEAD + "order y asks s 1;";
