@@ -9,6 +9,9 @@ public final class MirrorTest {
         "hope", "hope", "able", "ready", "ready", "lost", "will", "first", "rings", "rings", "opening", "opening", "law", "law", "lies",
         "lies", "lies", "sign", "sign", "untell", "later", "meant", "meant", "likely", "ask", "image", "back", "about", "fault"};
     private static final String NAMES = "abcdefghijkl";
+    /** Numbers at which an index, a shift or a sum could go wrong. */
+    private static final int[] FAR = {Integer.MIN_VALUE, Integer.MIN_VALUE + 1, -1001, -100, -33, -32, -31, -2, -1, 0, 1, 6, 8, 15, 31, 32, 33,
+        63, 64, 99, 100, 999, 1000, 1001, 1600, 1601, 99999, 100000, 100001, 1 << 30, Integer.MAX_VALUE - 1, Integer.MAX_VALUE};
 
     private long state;
 
@@ -30,6 +33,7 @@ public final class MirrorTest {
         for (int run = 0; run < runs; run++) {
             new MirrorTest(run).run(run);
             new MirrorTest(run + 1000000).faults(run);
+            new MirrorTest(run + 2000000).farNumbers(run);
         }
         CHECK.finish();
     }
@@ -189,6 +193,24 @@ public final class MirrorTest {
             }
         }
         whole(x, model, run);
+    }
+
+    /** Every call with numbers that may be far from all that can be. */
+    private void farNumbers(int run) {
+        FortyLetters x = new FortyLetters();
+        Model model = new Model();
+        if (!chance(8)) {
+            tell(x, model, text(), run);
+        }
+        for (int i = 0; i < 400; i++) {
+            String name = chance(20) ? "end" : CALLS[draw(CALLS.length)];
+            both(x, model, name, near(), near(), near(), draw(2), run);
+        }
+        whole(x, model, run);
+    }
+
+    private int near() {
+        return chance(2) ? FAR[draw(FAR.length)] : draw(6);
     }
 
     private static void both(FortyLetters x, Model model, String name, int a, int b, int c, int d, int run) {

@@ -159,193 +159,174 @@ public final class TextTest {
         CHECK.due("teach stays", x.level(0, 0), 8);
     }
 
-    private static void faultIs(String text, int fault, int place) {
-        FortyLetters x = new FortyLetters();
-        Check.feed(x, text);
-        CHECK.due("town() of " + text, x.town(), -1);
-        CHECK.due("fault(0) of " + text, x.fault(0), fault);
-        CHECK.due("fault(1) of " + text, x.fault(1), place);
-        CHECK.due("then an empty town()", x.town(), 0);
-        CHECK.due("fault(0) then", x.fault(0), 0);
-        CHECK.due("fault(1) then", x.fault(1), -1);
-    }
-
-    private static FortyLetters isTown(String text, int persons) {
-        FortyLetters x = new FortyLetters();
-        Check.feed(x, text);
-        CHECK.due("town() of " + text, x.town(), persons);
-        CHECK.due("fault(0) of " + text, x.fault(0), 0);
-        return x;
-    }
-
     private static void tokens() {
-        isTown("skill abcdefgh;", 0);
-        faultIs("skill abcdefghi;", 1, 6);
-        faultIs("skills x;", 2, 0);
-        isTown("\nskill\n \na ;\n", 0);
-        faultIs("skill\ta;", 1, 5);
-        faultIs("Skill a;", 1, 0);
-        faultIs("skill A;", 1, 6);
-        faultIs("skill a;\0", 1, 8);
-        faultIs("skill a;\u00e9", 1, 8);
-        faultIs("skill a;!", 1, 8);
-        isTown("open 0007;", 0);
-        faultIs("open 00007;", 1, 5);
-        faultIs("open 12345;", 1, 5);
-        faultIs("open 7a;", 1, 5);
-        faultIs("open 7 a;", 2, 7);
-        isTown("open7;draw9;", 0);
-        faultIs("skill s;order x asks s7seal 1;", 1, 22);
-        isTown("skill s;order x asks s7 seal1 weight2 worth3;", 0);
-        faultIs("teach 1 & 2;", 1, 8);
-        faultIs("teach 12345+1;", 1, 6);
-        faultIs("teach 5x;", 1, 6);
-        faultIs("teach 1.5;", 1, 7);
-        isTown("skill e;skill both;skill one;skill sum;", 0);
-        isTown("skill a;order a asks a 1;parish a;person a of a age 1 a 1;", 1);
+        CHECK.dueTown("skill abcdefgh;", 0);
+        CHECK.dueFault("skill abcdefghi;", 1, 6);
+        CHECK.dueFault("skills x;", 2, 0);
+        CHECK.dueTown("\nskill\n \na ;\n", 0);
+        CHECK.dueFault("skill\ta;", 1, 5);
+        CHECK.dueFault("Skill a;", 1, 0);
+        CHECK.dueFault("skill A;", 1, 6);
+        CHECK.dueFault("skill a;\0", 1, 8);
+        CHECK.dueFault("skill a;\u00e9", 1, 8);
+        CHECK.dueFault("skill a;!", 1, 8);
+        CHECK.dueTown("open 0007;", 0);
+        CHECK.dueFault("open 00007;", 1, 5);
+        CHECK.dueFault("open 12345;", 1, 5);
+        CHECK.dueFault("open 7a;", 1, 5);
+        CHECK.dueFault("open 7 a;", 2, 7);
+        CHECK.dueTown("open7;draw9;", 0);
+        CHECK.dueFault("skill s;order x asks s7seal 1;", 1, 22);
+        CHECK.dueTown("skill s;order x asks s7 seal1 weight2 worth3;", 0);
+        CHECK.dueFault("teach 1 & 2;", 1, 8);
+        CHECK.dueFault("teach 12345+1;", 1, 6);
+        CHECK.dueFault("teach 5x;", 1, 6);
+        CHECK.dueFault("teach 1.5;", 1, 7);
+        CHECK.dueTown("skill e;skill both;skill one;skill sum;", 0);
+        CHECK.dueTown("skill a;order a asks a 1;parish a;person a of a age 1 a 1;", 1);
     }
 
     private static void places() {
-        faultIs("skill", 2, 5);
-        faultIs("skill  ", 2, 7);
-        faultIs("skill a", 2, 7);
-        faultIs("skill a\n\n", 2, 9);
-        faultIs("skill a b;", 2, 8);
-        faultIs("skill 1;", 2, 6);
-        faultIs("skill ;", 2, 6);
-        faultIs(";", 2, 0);
-        faultIs("12;", 2, 0);
-        faultIs("name a;", 2, 0);
-        faultIs("asks a;", 2, 0);
+        CHECK.dueFault("skill", 2, 5);
+        CHECK.dueFault("skill  ", 2, 7);
+        CHECK.dueFault("skill a", 2, 7);
+        CHECK.dueFault("skill a\n\n", 2, 9);
+        CHECK.dueFault("skill a b;", 2, 8);
+        CHECK.dueFault("skill 1;", 2, 6);
+        CHECK.dueFault("skill ;", 2, 6);
+        CHECK.dueFault(";", 2, 0);
+        CHECK.dueFault("12;", 2, 0);
+        CHECK.dueFault("name a;", 2, 0);
+        CHECK.dueFault("asks a;", 2, 0);
         String[] words = {"skill", "order", "asks", "seal", "weight", "worth", "parish", "odds", "person", "of", "age",
             "undoes", "teach", "open", "draw", "or", "and", "not", "level", "year", "which"};
         for (String word : words) {
-            faultIs("skill " + word + ";", 2, 6);
-            faultIs("undoes " + word + ";", 2, 7);
+            CHECK.dueFault("skill " + word + ";", 2, 6);
+            CHECK.dueFault("undoes " + word + ";", 2, 7);
         }
-        faultIs("skill s;order x of", 2, 16);
-        faultIs("skill s;order x asks 1", 2, 21);
-        faultIs("skill s;order x asks s s", 2, 23);
-        faultIs("skill s;order x asks s 1 worth 1 worth", 2, 33);
-        faultIs("skill s;order x asks s 1 worth 1 weight", 2, 33);
-        faultIs("skill s;order x asks s 1 seal seal", 2, 30);
-        faultIs("odds 1", 2, 5);
-        faultIs(HEAD + "odds p 1", 2, 41);
-        faultIs(HEAD + "odds p x ;", 2, 43);
-        faultIs("person a age 1", 2, 9);
-        faultIs(HEAD + "person a of p 3", 2, 48);
-        faultIs(HEAD + "person a of p age s", 2, 52);
-        faultIs(HEAD + "person a of p age 1 2", 2, 54);
-        faultIs(HEAD + "person a of p age 1 s ;", 2, 56);
-        faultIs(HEAD + "person a of p age 1 age", 2, 54);
-        faultIs("open;", 2, 4);
-        faultIs("open x;", 2, 5);
-        faultIs("draw -1;", 2, 5);
-        faultIs("draw 1 2;", 2, 7);
+        CHECK.dueFault("skill s;order x of", 2, 16);
+        CHECK.dueFault("skill s;order x asks 1", 2, 21);
+        CHECK.dueFault("skill s;order x asks s s", 2, 23);
+        CHECK.dueFault("skill s;order x asks s 1 worth 1 worth", 2, 33);
+        CHECK.dueFault("skill s;order x asks s 1 worth 1 weight", 2, 33);
+        CHECK.dueFault("skill s;order x asks s 1 seal seal", 2, 30);
+        CHECK.dueFault("odds 1", 2, 5);
+        CHECK.dueFault(HEAD + "odds p 1", 2, 41);
+        CHECK.dueFault(HEAD + "odds p x ;", 2, 43);
+        CHECK.dueFault("person a age 1", 2, 9);
+        CHECK.dueFault(HEAD + "person a of p 3", 2, 48);
+        CHECK.dueFault(HEAD + "person a of p age s", 2, 52);
+        CHECK.dueFault(HEAD + "person a of p age 1 2", 2, 54);
+        CHECK.dueFault(HEAD + "person a of p age 1 s ;", 2, 56);
+        CHECK.dueFault(HEAD + "person a of p age 1 age", 2, 54);
+        CHECK.dueFault("open;", 2, 4);
+        CHECK.dueFault("open x;", 2, 5);
+        CHECK.dueFault("draw -1;", 2, 5);
+        CHECK.dueFault("draw 1 2;", 2, 7);
         // what would begin a line can't stand ahead of this line's end
-        faultIs("skill a skill b;", 2, 8);
-        faultIs("skill s;order x skill t;", 2, 16);
-        faultIs("skill s;order x asks s skill t;", 2, 23);
-        faultIs("skill s;order x asks s 1 seal skill t;", 2, 30);
-        faultIs("skill s;order x asks s 1 skill t;", 2, 25);
-        faultIs("parish p;odds p skill t;", 2, 16);
-        faultIs(HEAD + "odds p x skill t;", 2, 43);
-        faultIs(HEAD + "odds p x 1 skill t;", 2, 45);
-        faultIs("parish p;person a skill t;", 2, 18);
-        faultIs("parish p;person a of skill t;", 2, 21);
-        faultIs("parish p;person a of p skill t;", 2, 23);
-        faultIs("parish p;person a of p age skill t;", 2, 27);
-        faultIs("parish p;person a of p age 1 skill t;", 2, 29);
-        faultIs(HEAD + "person a of p age 1 s skill t;", 2, 56);
-        faultIs(HEAD + "undoes x skill t;", 2, 43);
-        faultIs("open skill t;", 2, 5);
-        faultIs("open 1 skill t;", 2, 7);
-        faultIs("draw skill t;", 2, 5);
-        faultIs("teach 1 skill t;", 2, 8);
+        CHECK.dueFault("skill a skill b;", 2, 8);
+        CHECK.dueFault("skill s;order x skill t;", 2, 16);
+        CHECK.dueFault("skill s;order x asks s skill t;", 2, 23);
+        CHECK.dueFault("skill s;order x asks s 1 seal skill t;", 2, 30);
+        CHECK.dueFault("skill s;order x asks s 1 skill t;", 2, 25);
+        CHECK.dueFault("parish p;odds p skill t;", 2, 16);
+        CHECK.dueFault(HEAD + "odds p x skill t;", 2, 43);
+        CHECK.dueFault(HEAD + "odds p x 1 skill t;", 2, 45);
+        CHECK.dueFault("parish p;person a skill t;", 2, 18);
+        CHECK.dueFault("parish p;person a of skill t;", 2, 21);
+        CHECK.dueFault("parish p;person a of p skill t;", 2, 23);
+        CHECK.dueFault("parish p;person a of p age skill t;", 2, 27);
+        CHECK.dueFault("parish p;person a of p age 1 skill t;", 2, 29);
+        CHECK.dueFault(HEAD + "person a of p age 1 s skill t;", 2, 56);
+        CHECK.dueFault(HEAD + "undoes x skill t;", 2, 43);
+        CHECK.dueFault("open skill t;", 2, 5);
+        CHECK.dueFault("open 1 skill t;", 2, 7);
+        CHECK.dueFault("draw skill t;", 2, 5);
+        CHECK.dueFault("teach 1 skill t;", 2, 8);
     }
 
     private static void tooMany() {
-        isTown("skill a;skill b;skill c;skill d;", 0);
-        faultIs("skill a;skill b;skill c;skill d;skill e;", 2, 32);
-        faultIs("skill a;skill b;skill c;skill d;skill a;", 2, 32);
+        CHECK.dueTown("skill a;skill b;skill c;skill d;", 0);
+        CHECK.dueFault("skill a;skill b;skill c;skill d;skill e;", 2, 32);
+        CHECK.dueFault("skill a;skill b;skill c;skill d;skill a;", 2, 32);
         StringBuilder orders = new StringBuilder("skill s;");
         for (char name = 'a'; name <= 'h'; name++) {
             orders.append("order ").append(name).append(" asks s 0;");
         }
-        CHECK.due("eight ORDERS", isTown(orders.toString(), 0).about(2), 8);
-        faultIs(orders + " order i asks s 0;", 2, orders.length() + 1);
-        faultIs("parish a;parish b;parish c;parish d;", 2, 27);
+        CHECK.due("eight ORDERS", CHECK.dueTown(orders.toString(), 0).about(2), 8);
+        CHECK.dueFault(orders + " order i asks s 0;", 2, orders.length() + 1);
+        CHECK.dueFault("parish a;parish b;parish c;parish d;", 2, 27);
         StringBuilder people = new StringBuilder("parish p;");
         for (char name = 'a'; name <= 'f'; name++) {
             people.append("person ").append(name).append(" of p age 0;");
         }
-        CHECK.due("six PERSONS", isTown(people.toString(), 6).about(0), 6);
-        faultIs(people + "person g of p age 0;", 2, people.length());
+        CHECK.due("six PERSONS", CHECK.dueTown(people.toString(), 6).about(0), 6);
+        CHECK.dueFault(people + "person g of p age 0;", 2, people.length());
         StringBuilder pairs = new StringBuilder(orders);
         for (char name = 'a'; name <= 'g'; name++) {
             pairs.append("undoes ").append(name).append(" h;");
         }
         pairs.append("undoes h a;");
-        CHECK.due("eight undoes", isTown(pairs.toString(), 0).about(4), 8);
-        faultIs(pairs + "undoes a b;", 2, pairs.length());
-        faultIs("teach 1;teach 1;", 2, 8);
-        faultIs("open 1;open 1;", 2, 7);
-        faultIs("draw 1;open 1;draw 1;", 2, 14);
-        isTown("draw 1;open 1;teach 1;", 0);
+        CHECK.due("eight undoes", CHECK.dueTown(pairs.toString(), 0).about(4), 8);
+        CHECK.dueFault(pairs + "undoes a b;", 2, pairs.length());
+        CHECK.dueFault("teach 1;teach 1;", 2, 8);
+        CHECK.dueFault("open 1;open 1;", 2, 7);
+        CHECK.dueFault("draw 1;open 1;draw 1;", 2, 14);
+        CHECK.dueTown("draw 1;open 1;teach 1;", 0);
     }
 
     private static void toldAlready() {
-        faultIs("skill a;skill a;", 3, 14);
-        faultIs(HEAD + "order x asks", 3, 40);
-        faultIs("parish p;parish p;", 3, 16);
-        faultIs("parish p;person a of p age 1;person a of p age 1;", 3, 36);
-        faultIs(HEAD + "person a of p age 1 s 1 s 2;", 3, 58);
+        CHECK.dueFault("skill a;skill a;", 3, 14);
+        CHECK.dueFault(HEAD + "order x asks", 3, 40);
+        CHECK.dueFault("parish p;parish p;", 3, 16);
+        CHECK.dueFault("parish p;person a of p age 1;person a of p age 1;", 3, 36);
+        CHECK.dueFault(HEAD + "person a of p age 1 s 1 s 2;", 3, 58);
         String full = "skill a;skill b;skill c;skill d;parish p;person a of p age 1 d 1 c 1 b 1 a 1";
-        isTown(full + ";", 1);
-        faultIs(full + " d 1;", 3, full.length() + 1);
-        faultIs(full + " e 1;", 5, full.length() + 1);
-        faultIs(full + " of", 2, full.length() + 1);
-        faultIs(HEAD + "odds p x 1;odds p x 1;", 3, 52);
-        isTown(HEAD + "parish q;odds p x 1;odds q x 1;order y asks s 1;odds p y 1;", 0);
+        CHECK.dueTown(full + ";", 1);
+        CHECK.dueFault(full + " d 1;", 3, full.length() + 1);
+        CHECK.dueFault(full + " e 1;", 5, full.length() + 1);
+        CHECK.dueFault(full + " of", 2, full.length() + 1);
+        CHECK.dueFault(HEAD + "odds p x 1;odds p x 1;", 3, 52);
+        CHECK.dueTown(HEAD + "parish q;odds p x 1;odds q x 1;order y asks s 1;odds p y 1;", 0);
         String two = HEAD + "order y asks s 1;";
-        faultIs(two + "undoes x x;", 3, two.length() + 9);
-        faultIs(two + "undoes x y;undoes x y;", 3, two.length() + 20);
-        FortyLetters x = isTown(two + "undoes x y;undoes y x;", 0);
+        CHECK.dueFault(two + "undoes x x;", 3, two.length() + 9);
+        CHECK.dueFault(two + "undoes x y;undoes x y;", 3, two.length() + 20);
+        FortyLetters x = CHECK.dueTown(two + "undoes x y;undoes y x;", 0);
         CHECK.due("x undoes y", x.order(0, 5), 2);
         CHECK.due("y undoes x", x.order(1, 5), 1);
     }
 
     private static void numbers() {
-        isTown("skill s;order x asks s 20 seal 9 weight 9 worth 9;order y asks s 0 seal 0 weight 0 worth 1;", 0);
-        faultIs("skill s;order x asks s 21;", 4, 23);
-        faultIs("skill s;order x asks s 1 seal 10;", 4, 30);
-        faultIs("skill s;order x asks s 1 weight 10;", 4, 32);
-        faultIs("skill s;order x asks s 1 worth 10;", 4, 31);
-        faultIs("skill s;order x asks s 1 worth 0;", 4, 31);
-        faultIs(HEAD + "odds p x 0;", 4, 43);
-        faultIs(HEAD + "odds p x 10;", 4, 43);
-        isTown(HEAD + "odds p x 9;", 0);
-        isTown(HEAD + "person a of p age 39 s 20;person b of p age 0 s 0;", 2);
-        faultIs(HEAD + "person a of p age 40;", 4, 52);
-        faultIs(HEAD + "person a of p age 39 s 21;", 4, 57);
-        CHECK.due("open 60", isTown("open 60;", 0).about(7), 60);
-        CHECK.due("open 1", isTown("open 1;", 0).about(7), 1);
-        faultIs("open 61;", 4, 5);
-        faultIs("open 0;", 4, 5);
-        CHECK.due("draw 999", isTown("draw 999;", 0).about(6), 999);
-        faultIs("draw 1000;", 4, 5);
-        isTown("teach 9999;", 0);
+        CHECK.dueTown("skill s;order x asks s 20 seal 9 weight 9 worth 9;order y asks s 0 seal 0 weight 0 worth 1;", 0);
+        CHECK.dueFault("skill s;order x asks s 21;", 4, 23);
+        CHECK.dueFault("skill s;order x asks s 1 seal 10;", 4, 30);
+        CHECK.dueFault("skill s;order x asks s 1 weight 10;", 4, 32);
+        CHECK.dueFault("skill s;order x asks s 1 worth 10;", 4, 31);
+        CHECK.dueFault("skill s;order x asks s 1 worth 0;", 4, 31);
+        CHECK.dueFault(HEAD + "odds p x 0;", 4, 43);
+        CHECK.dueFault(HEAD + "odds p x 10;", 4, 43);
+        CHECK.dueTown(HEAD + "odds p x 9;", 0);
+        CHECK.dueTown(HEAD + "person a of p age 39 s 20;person b of p age 0 s 0;", 2);
+        CHECK.dueFault(HEAD + "person a of p age 40;", 4, 52);
+        CHECK.dueFault(HEAD + "person a of p age 39 s 21;", 4, 57);
+        CHECK.due("open 60", CHECK.dueTown("open 60;", 0).about(7), 60);
+        CHECK.due("open 1", CHECK.dueTown("open 1;", 0).about(7), 1);
+        CHECK.dueFault("open 61;", 4, 5);
+        CHECK.dueFault("open 0;", 4, 5);
+        CHECK.due("draw 999", CHECK.dueTown("draw 999;", 0).about(6), 999);
+        CHECK.dueFault("draw 1000;", 4, 5);
+        CHECK.dueTown("teach 9999;", 0);
     }
 
     private static void unknownNames() {
-        faultIs("order x asks s 1;", 5, 13);
-        faultIs("odds p x 1;", 5, 5);
-        faultIs("parish p;odds p x 1;", 5, 16);
-        faultIs("person a of p age 1;", 5, 12);
-        faultIs("parish p;person a of p age 1 s 1;", 5, 29);
-        faultIs("undoes x y;", 5, 7);
-        faultIs(HEAD + "undoes x y;", 5, 43);
-        faultIs("skill s;parish p;odds p s 1;", 5, 24);
+        CHECK.dueFault("order x asks s 1;", 5, 13);
+        CHECK.dueFault("odds p x 1;", 5, 5);
+        CHECK.dueFault("parish p;odds p x 1;", 5, 16);
+        CHECK.dueFault("person a of p age 1;", 5, 12);
+        CHECK.dueFault("parish p;person a of p age 1 s 1;", 5, 29);
+        CHECK.dueFault("undoes x y;", 5, 7);
+        CHECK.dueFault(HEAD + "undoes x y;", 5, 43);
+        CHECK.dueFault("skill s;parish p;odds p s 1;", 5, 24);
     }
 
     private static String times(String text, int count) {
@@ -353,46 +334,46 @@ public final class TextTest {
     }
 
     private static void formulas() {
-        CHECK.due("units of 1", isTown("teach 1;", 0).about(13), 1);
-        CHECK.due("a bracket is a unit too", isTown("teach (1);", 0).about(13), 2);
-        CHECK.due("units", isTown("teach level*2+age/year-which%(1 or 2 and not 3)<4;", 0).about(13), 10);
-        CHECK.due("30 units", isTown("teach 1" + times("+1", 29) + ";", 0).about(13), 30);
-        faultIs("teach 1" + times("+1", 30) + ";", 2, 66);
-        faultIs("teach (1" + times("+1", 28) + ")+1;", 2, 66);
-        CHECK.due("30 units, one of them a bracket", isTown("teach (1" + times("+1", 28) + ");", 0).about(13), 30);
-        faultIs("teach 1" + times("+1", 29) + "+(1);", 2, 66);
-        faultIs("teach 1" + times("+1", 29) + "+12345;", 1, 66);
-        CHECK.due("seven brackets", isTown("teach " + times("(", 7) + "1" + times(")", 7) + ";", 0).about(13), 8);
-        faultIs("teach " + times("(", 8) + "1" + times(")", 8) + ";", 2, 13);
-        isTown("teach " + times("not ", 7) + "1;", 0);
-        faultIs("teach " + times("not ", 8) + "1;", 2, 34);
-        isTown("teach not(not(not(not 1)));", 0);
-        faultIs("teach not(not(not(not(1))));", 2, 21);
-        faultIs("teach (not(not(not(not 1))));", 2, 19);
-        isTown("teach " + times("not ", 7) + "1 and " + times("not ", 7) + "1;", 0);
-        isTown("teach " + times("(1)+", 9) + "1;", 0);
-        faultIs("teach 1<2<3;", 2, 9);
-        faultIs("teach 1=2>3;", 2, 9);
-        isTown("teach (1<2)<3;", 0);
-        faultIs("teach ;", 2, 6);
-        faultIs("teach 1+;", 2, 8);
-        faultIs("teach +1;", 2, 6);
-        faultIs("teach 1 2;", 2, 8);
-        faultIs("teach (1;", 2, 8);
-        faultIs("teach 1);", 2, 7);
-        faultIs("teach 1 or;", 2, 10);
-        faultIs("teach 1 and;", 2, 11);
-        faultIs("teach not;", 2, 9);
-        faultIs("teach 1<;", 2, 8);
-        faultIs("teach 1=;", 2, 8);
-        faultIs("teach 1*;", 2, 8);
-        faultIs("teach 1-;", 2, 8);
-        faultIs("teach 1%;", 2, 8);
-        faultIs("teach ();", 2, 7);
-        faultIs("teach 1+not 1;", 2, 8);
-        faultIs("teach 1 not 1;", 2, 8);
-        faultIs("teach s;", 2, 6);
-        faultIs("teach 1", 2, 7);
-        isTown("teach 1 or 2 or 3 and 4 and 5;", 0);
+        CHECK.due("units of 1", CHECK.dueTown("teach 1;", 0).about(13), 1);
+        CHECK.due("a bracket is a unit too", CHECK.dueTown("teach (1);", 0).about(13), 2);
+        CHECK.due("units", CHECK.dueTown("teach level*2+age/year-which%(1 or 2 and not 3)<4;", 0).about(13), 10);
+        CHECK.due("30 units", CHECK.dueTown("teach 1" + times("+1", 29) + ";", 0).about(13), 30);
+        CHECK.dueFault("teach 1" + times("+1", 30) + ";", 2, 66);
+        CHECK.dueFault("teach (1" + times("+1", 28) + ")+1;", 2, 66);
+        CHECK.due("30 units, one of them a bracket", CHECK.dueTown("teach (1" + times("+1", 28) + ");", 0).about(13), 30);
+        CHECK.dueFault("teach 1" + times("+1", 29) + "+(1);", 2, 66);
+        CHECK.dueFault("teach 1" + times("+1", 29) + "+12345;", 1, 66);
+        CHECK.due("seven brackets", CHECK.dueTown("teach " + times("(", 7) + "1" + times(")", 7) + ";", 0).about(13), 8);
+        CHECK.dueFault("teach " + times("(", 8) + "1" + times(")", 8) + ";", 2, 13);
+        CHECK.dueTown("teach " + times("not ", 7) + "1;", 0);
+        CHECK.dueFault("teach " + times("not ", 8) + "1;", 2, 34);
+        CHECK.dueTown("teach not(not(not(not 1)));", 0);
+        CHECK.dueFault("teach not(not(not(not(1))));", 2, 21);
+        CHECK.dueFault("teach (not(not(not(not 1))));", 2, 19);
+        CHECK.dueTown("teach " + times("not ", 7) + "1 and " + times("not ", 7) + "1;", 0);
+        CHECK.dueTown("teach " + times("(1)+", 9) + "1;", 0);
+        CHECK.dueFault("teach 1<2<3;", 2, 9);
+        CHECK.dueFault("teach 1=2>3;", 2, 9);
+        CHECK.dueTown("teach (1<2)<3;", 0);
+        CHECK.dueFault("teach ;", 2, 6);
+        CHECK.dueFault("teach 1+;", 2, 8);
+        CHECK.dueFault("teach +1;", 2, 6);
+        CHECK.dueFault("teach 1 2;", 2, 8);
+        CHECK.dueFault("teach (1;", 2, 8);
+        CHECK.dueFault("teach 1);", 2, 7);
+        CHECK.dueFault("teach 1 or;", 2, 10);
+        CHECK.dueFault("teach 1 and;", 2, 11);
+        CHECK.dueFault("teach not;", 2, 9);
+        CHECK.dueFault("teach 1<;", 2, 8);
+        CHECK.dueFault("teach 1=;", 2, 8);
+        CHECK.dueFault("teach 1*;", 2, 8);
+        CHECK.dueFault("teach 1-;", 2, 8);
+        CHECK.dueFault("teach 1%;", 2, 8);
+        CHECK.dueFault("teach ();", 2, 7);
+        CHECK.dueFault("teach 1+not 1;", 2, 8);
+        CHECK.dueFault("teach 1 not 1;", 2, 8);
+        CHECK.dueFault("teach s;", 2, 6);
+        CHECK.dueFault("teach 1", 2, 7);
+        CHECK.dueTown("teach 1 or 2 or 3 and 4 and 5;", 0);
     }
 }

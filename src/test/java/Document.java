@@ -1,0 +1,28 @@
+import java.io.IOException;
+import java.io.UncheckedIOException;
+import java.nio.file.Files;
+import java.nio.file.Path;
+
+/** The words of ../shared/DOC.md, so that a test can name the sentence that it holds the class to. */
+final class Document {
+    private static final Document SHARED = new Document(Path.of("../shared/DOC.md"));
+    private static final int PROMISES = 40;
+
+    /** parts[n]: promise n; parts[0]: all that stands ahead of the promises. */
+    private final String[] parts = new String[PROMISES + 1];
+
+    private Document(Path path) {
+        try {
+            String[] pieces = Files.readString(path).split("## Promise \\d+: ");
+            for (int i = 0; i < parts.length; i++) {
+                parts[i] = pieces[i].replaceAll("\\s+", " ");
+            }
+        } catch (IOException e) {
+            throw new UncheckedIOException(e);
+        }
+    }
+
+    static boolean says(int promise, String words) {
+        return SHARED.parts[promise].contains(words);
+    }
+}
