@@ -21,6 +21,7 @@ public final class LetterBoundsTest {
         teachNotTold();
         whatTeachCounts();
         formulas();
+        longFormulas();
         gainBounds();
         opensByAge();
         yearGoesUpLast();
@@ -316,6 +317,22 @@ public final class LetterBoundsTest {
         comesOf("not (0-7)", 0);
         comesOf("not not 7", 1);
         comesOf("not " + "not ".repeat(6) + "0", 1);
+    }
+
+    /** As long as a formula can be, each of its parts counts. */
+    private static void longFormulas() {
+        CHECK.says(0, "30 in one e (what is within brackets counts in it) (a unit ( e ), or a one behind not, within 6 others at most)");
+        String nots = "not ".repeat(7);
+        comesOf((nots + "1 or ").repeat(29) + nots + "0", 1);
+        comesOf((nots + "1 or ").repeat(29) + nots + "1", 0);
+        comesOf(nots + "0" + (" or " + nots + "1").repeat(29), 1);
+        comesOf((nots + "0 and ").repeat(29) + nots + "1", 0);
+        comesOf((nots + "0 and ").repeat(29) + nots + "0", 1);
+        comesOf("0+".repeat(29) + "7", 7);
+        comesOf("9999-" + "344-".repeat(28) + "365", 2);
+        comesOf("1+2*(3+4*(5-6/(7-5*(1+1%(2+0*(1-(2=2)))))))", 9);
+        comesOf("1-0*(3+4*(5-6/(7-5*(1+1%(2+0*(1-(2=2)))))))", 1);
+        comesOf("0 or (0<(0+1*(0 or (0<(0+1*(0 or 0<1))))))", 1);
     }
 
     private static void gainBounds() {
