@@ -15,11 +15,17 @@ final class Document {
         try {
             String[] pieces = Files.readString(path).split("## Promise \\d+: ");
             for (int i = 0; i < parts.length; i++) {
-                parts[i] = pieces[i].replaceAll("\\s+", " ");
+                parts[i] = pieces[i].split("## Not promised")[0].replaceAll("\\s+", " ");
             }
         } catch (IOException e) {
             throw new UncheckedIOException(e);
         }
+    }
+
+    /** What a promise says behind its face; 0: the Terms. */
+    static String body(int promise) {
+        String part = SHARED.parts[promise];
+        return promise == 0 ? part.substring(part.indexOf("## Terms") + 8) : part.substring(part.indexOf("`: ") + 3);
     }
 
     static boolean says(int promise, String words) {
